@@ -279,20 +279,15 @@ public final class SeatDesk {
 
     public int manifest(int station, int i) {
         int left = i;
-        for (int k = 0; k < rideCount; k++) {
-            if (rides[k].isAlive() && rides[k].to == station) {
-                if (left == 0) {
-                    return k;
+        for (int pass = 0; pass < 2; pass++) {
+            for (int k = 0; k < rideCount; k++) {
+                int at = pass == 0 ? rides[k].to : rides[k].from;
+                if (at == station && rides[k].isAlive()) {
+                    if (left == 0) {
+                        return k;
+                    }
+                    left--;
                 }
-                left--;
-            }
-        }
-        for (int k = 0; k < rideCount; k++) {
-            if (rides[k].isAlive() && rides[k].from == station) {
-                if (left == 0) {
-                    return k;
-                }
-                left--;
             }
         }
         return NONE;

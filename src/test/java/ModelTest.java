@@ -19,7 +19,6 @@ public final class ModelTest {
         for (int k = 0; k < names.length; k++) {
             CHECK.due("reached often enough: " + names[k] + ", " + REACHED[k] + " times", REACHED[k] >= 50, true);
         }
-        System.out.println(java.util.Arrays.toString(REACHED));
         for (String rare : new String[] {"book -4", "book -3", "agencyBook -5", "bookSeat -3", "bookGroup -3",
             "bookChanges -3", "offerChanges -1", "offerChanges 2", "wish -1", "block 0", "removeCoach 2"}) {
             CHECK.due("reached often enough: " + rare, ANSWERS.getOrDefault(rare, 0) >= 20, true);
