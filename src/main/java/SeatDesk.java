@@ -142,7 +142,8 @@ public final class SeatDesk {
     }
 
     public int wish(int ride, int mask) {
-        if (!isLiving(ride) || rides[ride].state == FIXED || !isMask(mask)) {
+        // One that stands is living and not fixed, but only a movable ride can wish.
+        if (!isLiving(ride) || rides[ride].state != MOVABLE || !isMask(mask)) {
             return WRONG;
         }
         Ride wishing = rides[ride];

@@ -7,7 +7,7 @@ public final class ModelTest {
     private static final Due CHECK = new Due();
     /** Kinds of calls that leave a train with many holes: mostly book and cancel, some bookSeat, changes, coaches out. */
     private static final int[] HOLES = {0, 0, 0, 0, 0, 130, 130, 130, 92, 99, 99, 172};
-    private static final int[] REACHED = new int[6];
+    private static final int[] REACHED = new int[7];
     private static final java.util.Map<String, Integer> ANSWERS = new java.util.TreeMap<>();
 
     public static void main(String[] args) {
@@ -15,7 +15,7 @@ public final class ModelTest {
             new Run(run).go();
         }
         String[] names = {"booking by a sweep", "wish by a sweep", "seat refused to a wish", "block by a sweep",
-            "block refused by a sweep", "ride of a removed coach placed by a sweep"};
+            "block refused by a sweep", "ride of a removed coach placed by a sweep", "wish of a ride that stands"};
         for (int k = 0; k < names.length; k++) {
             CHECK.due("reached often enough: " + names[k] + ", " + REACHED[k] + " times", REACHED[k] >= 50, true);
         }
@@ -59,7 +59,7 @@ public final class ModelTest {
                 same("seatOf", desk.seatOf(ride, stretch), plain.seatOf(ride, stretch), ride, stretch);
             }
             int[] here = {plain.sweptBookings, plain.sweptWishes, plain.refusedWishSeats, plain.sweptBlocks,
-                plain.refusedBlocks, plain.sweptRemovals};
+                plain.refusedBlocks, plain.sweptRemovals, plain.standingWishes};
             for (int k = 0; k < here.length; k++) {
                 REACHED[k] += here[k];
             }

@@ -45,7 +45,7 @@ final class PlainDesk {
     final List<int[]> blocks = new ArrayList<>();
     int moved;
     /** What happened how often, so that the test can tell that it reached the rare cases. */
-    int sweptBookings, sweptWishes, refusedWishSeats, sweptBlocks, refusedBlocks, sweptRemovals;
+    int sweptBookings, sweptWishes, refusedWishSeats, sweptBlocks, refusedBlocks, sweptRemovals, standingWishes;
 
     PlainDesk(int stations) {
         this.stations = stations >= 2 && stations <= 30 ? stations : 10;
@@ -336,6 +336,10 @@ final class PlainDesk {
         if (!living(ride) || people.get(ride).fixed || mask < 0 || mask > 255) {
             return WRONG;
         }
+        if (people.get(ride).stands) {
+            standingWishes++;
+            return WRONG;
+        }
         Person p = people.get(ride);
         for (int told : seatsOfClass(p.type)) {
             if (hasFlags(told, mask) && freeThrough(told, p.from, p.to, p)) {
@@ -361,7 +365,6 @@ final class PlainDesk {
     int fixWish(Person p, int told) {
         p.take(told);
         p.fixed = true;
-        p.stands = false;
         return told;
     }
 

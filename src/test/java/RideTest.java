@@ -151,12 +151,27 @@ public final class RideTest {
         x.bookSeat(0, 2, 0, 0);
         x.bookSeat(0, 2, 1, 0);
         CHECK.due("one stands", x.removeCoach(1), 1);
-        CHECK.due("no seat", x.wish(1, 0), SeatDesk.NONE);
-        CHECK.due("stands", x.ride(1, 0), 3);
+        CHECK.due("no seat is free", x.wish(1, 0), SeatDesk.WRONG);
+        CHECK.due("a wrong mask", x.wish(1, 256), SeatDesk.WRONG);
         CHECK.due("a seat is free", x.cancel(0), true);
-        CHECK.due("it is living and not fixed", x.wish(1, 0), 0);
-        CHECK.due("fixed", x.ride(1, 0), 2);
-        CHECK.due("nobody stands", x.standing(0), SeatDesk.NONE);
+        CHECK.due("it is living and not fixed, but not movable", x.wish(1, 0), SeatDesk.WRONG);
+        CHECK.due("stands still", x.ride(1, 0), 3);
+        CHECK.due("told among those who stand", x.standing(0), 1);
+        CHECK.due("without a seat", x.seatOf(1, 0), SeatDesk.NONE);
+        CHECK.due("the seat is free still", x.free(0, 0), 1);
+        CHECK.due("nobody moved", x.moved(), 0);
+        SeatDesk y = new SeatDesk(3);
+        y.coach(0, 1);
+        y.coach(0, 2);
+        y.flags(1, 0, 1);
+        y.bookSeat(0, 2, 0, 0);
+        y.book(0, 2, 0);
+        y.bookSeat(0, 2, 1, 1);
+        CHECK.due("ride 0 stands", y.removeCoach(0), 1);
+        CHECK.due("another one goes", y.cancel(2), true);
+        CHECK.due("a sweep could make room", y.wish(0, 1), SeatDesk.WRONG);
+        CHECK.due("ride 1 sits where it sat", y.seatOf(1, 0), 100);
+        CHECK.due("it is movable and can wish", y.wish(1, 1), 100);
     }
 
     private static void print() {
