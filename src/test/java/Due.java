@@ -1,13 +1,19 @@
 /** Counts and prints the answers that are not as due. */
 final class Due {
+    private String sentence = "";
     private int wrong;
     private int asked;
+
+    /** The words of the document that the answers from here on belong to; told with each that is not as due. */
+    void sentence(String said) {
+        sentence = "\"" + said + "\": ";
+    }
 
     void due(String call, long got, long want) {
         asked++;
         if (got != want) {
             wrong++;
-            System.out.println(call + " answered " + got + ", due is " + want);
+            System.out.println(sentence + call + " answered " + got + ", due is " + want);
         }
     }
 
