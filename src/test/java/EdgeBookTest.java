@@ -20,6 +20,7 @@ public final class EdgeBookTest {
         groupInTheLowestCoach();
         groupOnTheLowestSeats();
         groupNumbers();
+        groupWrong();
         groupFull();
         CHECK.end();
     }
@@ -321,6 +322,19 @@ public final class EdgeBookTest {
             CHECK.due("agency of " + ride, x.ride(ride, 4), NONE);
             CHECK.due("state of " + ride, x.ride(ride, 0), 2);
         }
+    }
+
+    private static void groupWrong() {
+        CHECK.sentence("the others follow. WRONG");
+        SeatDesk x = new SeatDesk(4);
+        x.coach(0, 1);
+        int[][] wrong = {{-1, 1, 0, 2}, {0, 4, 0, 2}, {3, 4, 0, 2}, {1, 1, 0, 2}, {2, 1, 0, 2}, {0, 1, -1, 2}, {0, 1, 2, 2}, {0, 1, MIN, 2},
+            {0, 1, MAX, 2}, {0, 1, 0, 1}, {0, 1, 0, 13}};
+        for (int[] w : wrong) {
+            CHECK.due("before FULL: from " + w[0] + " to " + w[1] + " in " + w[2] + ", n " + w[3], x.bookGroup(w[0], w[1], w[2], w[3]), WRONG);
+        }
+        CHECK.due("full", x.bookGroup(0, 1, 0, 2), FULL);
+        CHECK.due("no number was given", x.book(0, 1, 0), 0);
     }
 
     private static void groupFull() {

@@ -156,6 +156,7 @@ public final class EdgeRideTest {
         CHECK.due("who wished sits", x.seatOf(1, 2), answer == NONE ? 1 : 0);
         CHECK.due("who gave way sits", x.seatOf(3, sweepable), answer == NONE ? 0 : 1);
         CHECK.due("the fixed one sits", x.seatOf(2, stretch), 0);
+        CHECK.due("and has its seat for itself", x.bookSeat(stretch, stretch + 1, 0, 0), FULL);
     }
 
     private static void wishNoFixedRideThere() {
@@ -475,7 +476,7 @@ public final class EdgeRideTest {
     }
 
     private static void shortenWithinItsWay() {
-        CHECK.sentence("both within its way");
+        CHECK.sentence("both within its way, keeping its seats there; false otherwise");
         SeatDesk x = new SeatDesk(8);
         x.coach(0, 1);
         x.book(2, 6, 0);

@@ -10,6 +10,7 @@ public final class EdgeTermsTest {
         coachNumbersAndClasses();
         eightCoachesEver();
         eightySeatsInAll();
+        allOfThemTaken();
         flags();
         toldSeats();
         toALaterOne();
@@ -38,6 +39,7 @@ public final class EdgeTermsTest {
         agencies();
         bothClassesTogether();
         untilCancelled();
+        numbersNotAsSaid();
         ownMemory();
         callNumber512();
         CHECK.end();
@@ -199,6 +201,36 @@ public final class EdgeTermsTest {
         CHECK.due("80", y.coach(0, 1), 4);
         CHECK.due("81", y.coach(0, 1), WRONG);
         CHECK.due("free", y.free(0, 0), 80);
+    }
+
+    private static void allOfThemTaken() {
+        CHECK.sentence("at most 8 coaches ever, 80 seats in all");
+        SeatDesk x = new SeatDesk(30);
+        for (int k = 0; k < 8; k++) {
+            x.coach(0, 10);
+        }
+        x.quota(28, 0, 150);
+        for (int k = 0; k < 80; k++) {
+            CHECK.due("ride " + k, x.seatOf(x.book(0, 29, 0), 28), 100 * (k / 10) + k % 10);
+        }
+        CHECK.due("book", x.book(28, 29, 0), FULL);
+        CHECK.due("agencyBook", x.agencyBook(0, 28, 29, 0), FULL);
+        CHECK.due("bookSeat", x.bookSeat(28, 29, 7, 9), FULL);
+        CHECK.due("bookGroup", x.bookGroup(28, 29, 0, 2), FULL);
+        CHECK.due("offerChanges", x.offerChanges(28, 29, 0), NONE);
+        CHECK.due("bookChanges", x.bookChanges(28, 29, 0), FULL);
+        CHECK.due("wish", x.wish(79, 1), NONE);
+        CHECK.due("block", x.block(7, 9, 28, 29), 0);
+        CHECK.due("free", x.free(28, 0), 0);
+        CHECK.due("of the other class there is none", x.book(28, 29, 1), FULL);
+        CHECK.due("the last seat gets a flag", x.flags(7, 9, 1), true);
+        CHECK.due("the first ride wishes it", x.wish(0, 1), 709);
+        CHECK.due("all others have moved down by one", x.moved(), 79);
+        CHECK.due("the last one is on the last seat but one", x.seatOf(79, 0), 708);
+        CHECK.due("the last coach is taken out", x.removeCoach(7), 10);
+        CHECK.due("load", x.load(28, 0), 80);
+        CHECK.due("the first one that stands", x.standing(0), 0);
+        CHECK.due("the last one", x.standing(9), 79);
     }
 
     private static void flags() {
@@ -619,7 +651,8 @@ public final class EdgeTermsTest {
     }
 
     private static void brokenOrFull() {
-        CHECK.sentence("BROKEN, if on each of its stretches fewer rides of its class (without it; those that stand count) go than seats of the class are there, else FULL");
+        CHECK.sentence("BROKEN, if on each of its stretches fewer rides of its class (without it; those that stand count) go"
+            + " than seats of the class are there, else FULL");
         SeatDesk x = new SeatDesk(6);
         x.coach(0, 2);
         x.coach(1, 3);
@@ -770,6 +803,68 @@ public final class EdgeTermsTest {
         CHECK.due("it counts no more", x.agencyBook(2, 1, 2, 0), 3);
         CHECK.due("cancelled", x.cancel(3), true);
         CHECK.due("nor does this one", x.agencyBook(2, 1, 2, 0), 4);
+    }
+
+    private interface Call {
+        int on(SeatDesk x, int[] with);
+    }
+
+    /** A good call answers something else; with any one number that is not as said it is refused. */
+    private static void refuses(String name, int refusal, Call call, int[] good, int[]... notAsSaid) {
+        CHECK.due(name + " with good numbers", call.on(numbered(), good) != refusal, true);
+        for (int k = 0; k < good.length; k++) {
+            for (int number : notAsSaid[k]) {
+                int[] with = good.clone();
+                with[k] = number;
+                CHECK.due(name + java.util.Arrays.toString(with), call.on(numbered(), with), refusal);
+            }
+        }
+    }
+
+    /** Stations 0 to 4, coaches 0 and 1 with seats 0 to 2, of class 0; ride 0 on (1, 4) on seat 0; a block on seat 101. */
+    private static SeatDesk numbered() {
+        SeatDesk x = new SeatDesk(5);
+        x.coach(0, 3);
+        x.coach(0, 3);
+        for (int stretch = 0; stretch < 4; stretch++) {
+            x.quota(stretch, 2, 9);
+        }
+        x.book(1, 4, 0);
+        x.block(1, 1, 1, 4);
+        return x;
+    }
+
+    private static void numbersNotAsSaid() {
+        CHECK.sentence("Numbers that are not as said are WRONG");
+        int[] from = {-1, 4, 5, MIN, MAX};
+        int[] to = {-1, 0, 1, 5, MIN, MAX};
+        int[] stretch = {-1, 4, MIN, MAX};
+        int[] type = {-1, 2, MIN, MAX};
+        int[] coach = {-1, 2, 8, MIN, MAX};
+        int[] seat = {-1, 3, 20, MIN, MAX};
+        int[] agency = {-1, 4, MIN, MAX};
+        int[] mask = {-1, 256, MIN, MAX};
+        int[] ride = {-1, 1, 150, MIN, MAX};
+        refuses("coach", WRONG, (x, w) -> x.coach(w[0], w[1]), new int[] {1, 20}, type, new int[] {0, 21, -1, MIN, MAX});
+        refuses("flags", 0, (x, w) -> x.flags(w[0], w[1], w[2]) ? 1 : 0, new int[] {1, 2, 255}, coach, seat, mask);
+        refuses("quota", 0, (x, w) -> x.quota(w[0], w[1], w[2]) ? 1 : 0, new int[] {3, 3, 150}, stretch, agency, new int[] {-1, 151, MIN, MAX});
+        refuses("book", WRONG, (x, w) -> x.book(w[0], w[1], w[2]), new int[] {1, 4, 0}, from, to, type);
+        refuses("agencyBook", WRONG, (x, w) -> x.agencyBook(w[0], w[1], w[2], w[3]), new int[] {2, 1, 4, 0}, agency, from, to, type);
+        refuses("bookSeat", WRONG, (x, w) -> x.bookSeat(w[0], w[1], w[2], w[3]), new int[] {1, 4, 1, 2}, from, to, coach, seat);
+        refuses("bookGroup", WRONG, (x, w) -> x.bookGroup(w[0], w[1], w[2], w[3]), new int[] {1, 4, 0, 2}, from, to, type, new int[] {-1, 0, 1, 13, MIN, MAX});
+        refuses("offerChanges", WRONG, (x, w) -> x.offerChanges(w[0], w[1], w[2]), new int[] {1, 4, 0}, from, to, type);
+        refuses("bookChanges", WRONG, (x, w) -> x.bookChanges(w[0], w[1], w[2]), new int[] {1, 4, 0}, from, to, type);
+        refuses("wish", WRONG, (x, w) -> x.wish(w[0], w[1]), new int[] {0, 0}, ride, mask);
+        refuses("print", 0, (x, w) -> x.print(w[0]) ? 1 : 0, new int[] {0}, ride);
+        refuses("cancel", 0, (x, w) -> x.cancel(w[0]) ? 1 : 0, new int[] {0}, ride);
+        refuses("shorten", 0, (x, w) -> x.shorten(w[0], w[1], w[2]) ? 1 : 0, new int[] {0, 1, 4}, ride, new int[] {-1, 0, 4, MIN, MAX}, to);
+        refuses("seatOf", NONE, (x, w) -> x.seatOf(w[0], w[1]), new int[] {0, 3}, ride, new int[] {-1, 0, 4, MIN, MAX});
+        refuses("block", WRONG, (x, w) -> x.block(w[0], w[1], w[2], w[3]), new int[] {1, 2, 1, 4}, coach, seat, from, to);
+        refuses("unblock", 0, (x, w) -> x.unblock(w[0], w[1], w[2], w[3]) ? 1 : 0, new int[] {1, 1, 1, 4}, coach, seat, from, to);
+        refuses("removeCoach", WRONG, (x, w) -> x.removeCoach(w[0]), new int[] {1}, coach);
+        refuses("load", WRONG, (x, w) -> x.load(w[0], w[1]), new int[] {3, 1}, stretch, type);
+        refuses("free", WRONG, (x, w) -> x.free(w[0], w[1]), new int[] {3, 1}, stretch, type);
+        refuses("manifest", NONE, (x, w) -> x.manifest(w[0], w[1]), new int[] {4, 0}, new int[] {-1, 5, MIN, MAX}, new int[] {-1, 1, MIN, MAX});
     }
 
     private static void ownMemory() {
