@@ -307,6 +307,17 @@ public final class EdgeSeatTest {
             CHECK.due("no more", x.unblock(coach, 1, 0, 1), false);
         }
         CHECK.due("free", x.free(0, 0), 4);
+        SeatDesk y = new SeatDesk(3);
+        y.coach(0, 1);
+        y.coach(0, 1);
+        for (int k = 0; k < 500; k++) {
+            y.block(0, 0, 0, 2);
+        }
+        y.block(1, 0, 1, 2);
+        CHECK.due("a coach with 500 of them", y.removeCoach(0), 0);
+        CHECK.due("the other's is kept", y.free(1, 0), 0);
+        CHECK.due("and can be taken away", y.unblock(1, 0, 1, 2), true);
+        CHECK.due("free", y.free(1, 0), 1);
     }
 
     /** A ride with a seat in coach 0 on one of three stretches, else in coach 1; then coach 0 is taken out. */
